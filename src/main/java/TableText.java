@@ -189,11 +189,6 @@ public final class TableText {
             amount++;
         }
 
-        private void addEntry(String entryName, Node inner) {
-            inner.name = entryName;
-            add(inner);
-        }
-
         private Node inner(int i) {
             if (i < 0) {
                 return null;
@@ -212,6 +207,16 @@ public final class TableText {
                 }
             }
             return null;
+        }
+
+        private Node entryOrNew(String wanted, int newSort) {
+            Node there = entryNamed(wanted);
+            if (there == null) {
+                there = new Node(newSort, 0);
+                there.name = wanted;
+                add(there);
+            }
+            return there;
         }
     }
 
@@ -232,7 +237,7 @@ public final class TableText {
         private final char[] text;
         private final int length;
         private final StringBuilder letters;
-        /** The tables that came by dots, so that a closed table can close its own when it ends. */
+        /** The tables that entries went through by dots, so that a closed table can close its own when it ends. */
         private final ArrayList<Node> dotted;
         private final Node document;
         private Node opened;
@@ -310,7 +315,8 @@ public final class TableText {
             if (found == null) {
                 return false;
             }
-            target.addEntry(step.name, found);
+            found.name = step.name;
+            target.add(found);
             return true;
         }
 
@@ -343,13 +349,12 @@ public final class TableText {
         }
 
         private Node dottedTable(Node table, Step step) {
-            Node there = table.entryNamed(step.name);
-            if (there == null) {
-                there = new Node(DOTTED, 0);
-                table.addEntry(step.name, there);
-                dotted.add(there);
+            Node there = table.entryOrNew(step.name, DOTTED);
+            if (there.sort != DOTTED) {
+                return wrong(step.place);
             }
-            return there.sort == DOTTED ? there : wrong(step.place);
+            dotted.add(there);
+            return there;
         }
 
         private Node openTable(Step path, boolean ofRows) {
@@ -366,11 +371,7 @@ public final class TableText {
         }
 
         private Node throughTable(Node table, Step step) {
-            Node there = table.entryNamed(step.name);
-            if (there == null) {
-                there = new Node(IMPLIED, 0);
-                table.addEntry(step.name, there);
-            }
+            Node there = table.entryOrNew(step.name, IMPLIED);
             if (there.sort == ROWS) {
                 return there.last;
             }
@@ -378,11 +379,7 @@ public final class TableText {
         }
 
         private Node toldTable(Node table, Step step) {
-            Node there = table.entryNamed(step.name);
-            if (there == null) {
-                there = new Node(IMPLIED, 0);
-                table.addEntry(step.name, there);
-            }
+            Node there = table.entryOrNew(step.name, IMPLIED);
             if (there.sort != IMPLIED) {
                 return wrong(step.place);
             }
@@ -391,11 +388,7 @@ public final class TableText {
         }
 
         private Node newRow(Node table, Step step) {
-            Node there = table.entryNamed(step.name);
-            if (there == null) {
-                there = new Node(ROWS, 0);
-                table.addEntry(step.name, there);
-            }
+            Node there = table.entryOrNew(step.name, ROWS);
             if (there.sort != ROWS) {
                 return wrong(step.place);
             }

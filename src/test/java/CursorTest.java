@@ -80,6 +80,8 @@ final class CursorTest {
         TableText y = Due.of("[a.b]\n[a]\nc=1\n[d]\ne.f=false\n[d.e.g]\nh=''");
         Due.is("an implied table that was told then", () -> Due.walk(y, 0), 7);
         Due.is("its entries", y::value, 2);
+        Due.is("a new told table without entries", () -> Due.walk(y, 0, 0), 7);
+        Due.is("its entries", y::value, 0);
         Due.is("a told table", () -> Due.walk(y, 1), 7);
         Due.is("a dotted one that a header went through", () -> Due.walk(y, 1, 0), 9);
         Due.is("its entries", y::value, 2);
@@ -88,6 +90,13 @@ final class CursorTest {
         Due.is("a told one in it", () -> Due.walk(y, 1, 0, 1), 7);
         Due.is("a string", () -> Due.walk(y, 1, 0, 1, 0), 3);
         Due.is("its characters", y::value, 0);
+        TableText z = Due.of("[[r]]\nl=[]\nt={}");
+        Due.is("a list of one row", () -> Due.walk(z, 0), 6);
+        Due.is("its rows", z::value, 1);
+        Due.is("a list of nothing", () -> Due.walk(z, 0, 0, 0), 5);
+        Due.is("its values", z::value, 0);
+        Due.is("a closed table of nothing", () -> Due.walk(z, 0, 0, 1), 10);
+        Due.is("its entries", z::value, 0);
     }
 
     private static void letters() {

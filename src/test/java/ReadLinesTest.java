@@ -3,6 +3,7 @@ final class ReadLinesTest {
     public static void main(String[] args) {
         eachReadBeginsAnew();
         aWrongReadKeepsDocumentAndCursor();
+        nothingIsSeenOfAnEarlierText();
         lines();
         headersAndWhatIsBehind();
         Due.end();
@@ -37,6 +38,21 @@ final class ReadLinesTest {
         Due.same("written", Due.written(x), "t = {a = {b = {c = {d = \"deep\"}}}}\n");
         Due.is("read of the text that is empty now", x::read, -1);
         Due.is("entries", x::top, 0);
+    }
+
+    /** Each beginning of a text is read behind the whole text as by a new object. */
+    private static void nothingIsSeenOfAnEarlierText() {
+        String whole = "[a . \"b\\n\"] #c\nd=2024-02-29\ne=[1_0, {f=true},\n'g' ]\n[[ h ]]\ni=0xf\nj=-12";
+        for (int n = 0; n <= whole.length(); n++) {
+            String begin = whole.substring(0, n);
+            TableText fresh = new TableText();
+            Due.type(fresh, begin);
+            int place = fresh.read();
+            TableText x = Due.of(whole);
+            Due.type(x, begin);
+            Due.is("read of the first " + n + " characters again", x::read, place);
+            Due.same("written", Due.written(x), Due.written(place < 0 ? fresh : Due.of(whole)));
+        }
     }
 
     private static void lines() {

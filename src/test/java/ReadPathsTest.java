@@ -12,7 +12,7 @@ final class ReadPathsTest {
     }
 
     private static void parts() {
-        Due.reads("aZ09_-=1", "aZ09_- = 1\n");
+        Due.reads("aZ09_-=1\nzA=2", "aZ09_- = 1\nzA = 2\n");
         Due.reads("1=1\n-=2\n_=3\n2024-01-01=4\ntrue=5", "1 = 1\n- = 2\n_ = 3\n2024-01-01 = 4\ntrue = 5\n");
         Due.reads("\"\"=1\n\"a b\"=2\n\"c\"=3", "\"\" = 1\n\"a b\" = 2\nc = 3\n");
         Due.reads("\"q\\\"\\\\\\n\\t\"=1", "\"q\\\"\\\\\\n\\t\" = 1\n");

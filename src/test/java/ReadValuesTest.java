@@ -38,6 +38,7 @@ final class ReadValuesTest {
         number("0xfffffff", 0xfffffff);
         number("0xa_b_c_d_e_f_0", 0xabcdef0);
         number("1#", 1);
+        number(Due.times(" ", 234) + "2024", 2024);
     }
 
     private static void numbersThatAreWrong() {
@@ -61,6 +62,8 @@ final class ReadValuesTest {
         Due.wrongAtMark("n=123456789^0");
         Due.wrongAtMark("n=-123456789^0");
         Due.wrongAtMark("n=1_234_567_89^01");
+        Due.wrongAtMark("n=123456789_^0");
+        Due.wrongAtMark("n=0x1234567_^8");
         Due.wrongAtMark("n=0x^");
         Due.wrongAtMark("n=0x^_1");
         Due.wrongAtMark("n=0x^g");
@@ -122,6 +125,9 @@ final class ReadValuesTest {
         Due.wrongAtMark("d=+2023^-01-01");
         Due.wrongAtMark("d=-2023^-01-01");
         Due.wrongAtMark("d=202^-01-01");
+        Due.wrongAtMark("d=+202^-01-01");
+        Due.wrongAtMark("d=202_^-01-01");
+        Due.wrongAtMark("d=202^x-01-01");
         Due.wrongAtMark("d=20234^-01-01");
         Due.wrongAtMark("d=2_023^-01-01");
         Due.wrongAtMark("d=0^023");

@@ -1,3 +1,5 @@
+import java.util.function.IntUnaryOperator;
+
 /** What the tests share: a way to call TableText with whole texts, and to say what is due. */
 final class Due {
     static final String ARGUMENT = "throws.IllegalArgumentException";
@@ -99,11 +101,43 @@ final class Due {
     }
 
     static String key(TableText x) {
+        return characters(x::key);
+    }
+
+    /** What an indexed call of the face answers from 0 on, up to the first -1 or exception. */
+    private static String characters(IntUnaryOperator call) {
         StringBuilder all = new StringBuilder();
-        for (int i = 0; x.key(i) >= 0; i++) {
-            all.append((char) x.key(i));
+        int c = characterOrNone(call, 0);
+        for (int i = 1; c >= 0; i++) {
+            all.append((char) c);
+            c = characterOrNone(call, i);
         }
         return all.toString();
+    }
+
+    private static int characterOrNone(IntUnaryOperator call, int i) {
+        try {
+            return call.applyAsInt(i);
+        } catch (IllegalStateException | IndexOutOfBoundsException e) {
+            return -1;
+        }
+    }
+
+    /** All that the face shows of an object, so that two can be told apart; the object is used up by it. */
+    static String everything(TableText x) {
+        StringBuilder all = new StringBuilder();
+        all.append("letters ").append(characters(x::letter));
+        all.append(", written ").append(characters(x::written));
+        all.append(", cursor");
+        String up = "";
+        while (!up.equals(STATE)) {
+            all.append(" in ").append(x.kind()).append(' ').append(x.value()).append(' ');
+            all.append(answer(() -> x.key(0))).append(characters(x::key));
+            up = answer(x::up);
+        }
+        all.append(", document ").append(x.top()).append(' ').append(written(x));
+        all.append(", text ").append(x.type('\n', 1)).append(' ').append(x.read());
+        return all.append(' ').append(written(x)).toString();
     }
 
     static String times(String part, int n) {

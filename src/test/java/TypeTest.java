@@ -5,7 +5,59 @@ final class TypeTest {
         bytesAboveTheLowestAreNotLookedAt();
         countsAndCharactersThatAreNone();
         theTextEndsAt240();
+        oneToEightBytesInTheirOrder();
+        everyByteIsLookedAt();
+        whatIsNoneGoesBeforeWhatIsTooMuch();
         Due.end();
+    }
+
+    private static void oneToEightBytesInTheirOrder() {
+        long characters = 0x6162636465666768L;
+        String all = "abcdefgh";
+        for (int n = 1; n <= 8; n++) {
+            int count = n;
+            long above = n == 8 ? 0 : -1L << 8 * n;
+            TableText x = new TableText();
+            Due.type(x, "s='");
+            Due.is("type the lowest " + n, () -> x.type(characters | above, count), 3 + n);
+            Due.type(x, "'");
+            Due.is("read", x::read, -1);
+            Due.same("written", Due.written(x), "s = \"" + all.substring(8 - n) + "\"\n");
+        }
+    }
+
+    /** Each of the n bytes may be the one that is none, and no byte above them is asked. */
+    private static void everyByteIsLookedAt() {
+        int[] none = {0, 9, 11, 13, 31, 127, 128, 138, 160, 255};
+        int[] some = {10, 32, 33, 126};
+        for (int n = 1; n <= 8; n++) {
+            int count = n;
+            for (int place = 0; place < 8; place++) {
+                for (int code : none) {
+                    long characters = withByte(code, place);
+                    String want = place < n ? Due.ARGUMENT : String.valueOf(n);
+                    Due.fails("type " + n + ", byte " + place + " is " + code, () -> new TableText().type(characters, count), want);
+                }
+                for (int code : some) {
+                    long characters = withByte(code, place);
+                    Due.is("type " + n + ", byte " + place + " is " + code, () -> new TableText().type(characters, count), n);
+                }
+            }
+        }
+    }
+
+    private static long withByte(int code, int place) {
+        return 0x6161616161616161L & ~(0xffL << 8 * place) | (long) code << 8 * place;
+    }
+
+    /** As the document names them: where both would be due, the argument is refused. */
+    private static void whatIsNoneGoesBeforeWhatIsTooMuch() {
+        TableText x = new TableText();
+        Due.type(x, Due.times(" ", 240));
+        Due.fails("type(.., 0) into a full text", () -> x.type('a', 0), Due.ARGUMENT);
+        Due.fails("type(.., 9) into a full text", () -> x.type('a', 9), Due.ARGUMENT);
+        Due.fails("type of none into a full text", () -> x.type(127, 1), Due.ARGUMENT);
+        Due.fails("type of one into a full text", () -> x.type(126, 1), Due.STATE);
     }
 
     private static void theHighestByteComesFirst() {
